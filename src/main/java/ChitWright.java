@@ -807,7 +807,8 @@ public final class ChitWright {
         int booked = 0;
         for (int i = 0; i < invoices.size(); i++) {
             Invoice one = invoices.get(i);
-            if (one.line == line && one.state == HELD && bookUnlessHeld(one)) {
+            if (one.line == line && one.state == HELD && one.reasons() == 0) {
+                book(one);
                 booked++;
             }
         }

@@ -230,9 +230,11 @@ final class AskedTest {
         ChitWright x = Offices.soft();
         x.carried(100);
         x.budget(0, 0, 100);
+        x.budget(1, 0, 1);
         x.pass(359);
         x.pass(360);
         Check.due("closed on the way", 100, x.centre(0, 1, 0));
+        Check.due("a cent too", 1, x.centre(1, 1, 0));
         Check.due("not the second one", 0, x.centre(0, 2, 0));
         x.pass(360);
         Check.due("the second one", 100, x.centre(0, 2, 0));

@@ -26,7 +26,7 @@ final class Check {
         due(what, want ? 1 : 0, got ? 1 : 0);
     }
 
-    /** The call throws exactly that, and nothing that can be asked is another one behind it. */
+    /** The class itself throws exactly that, and nothing that can be asked is another one behind it. */
     static void refuses(String what, Class<?> want, ChitWright x, Act call) {
         checks++;
         String before = Offices.picture(x);
@@ -34,7 +34,7 @@ final class Check {
         try {
             call.run();
         } catch (RuntimeException e) {
-            got = e.getClass();
+            got = isThrownByHand(e) ? e.getClass() : null;
         }
         if (got != want) {
             wrong++;
@@ -44,6 +44,11 @@ final class Check {
             wrong++;
             System.out.println("  " + what + " changed something");
         }
+    }
+
+    static boolean isThrownByHand(RuntimeException e) {
+        StackTraceElement[] trace = e.getStackTrace();
+        return trace.length > 0 && trace[0].getClassName().startsWith("ChitWright");
     }
 
     static void close(String test) {

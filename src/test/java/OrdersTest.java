@@ -189,6 +189,12 @@ final class OrdersTest {
         x.change(r, 0, 21);
         Check.due("committed there", 2100, x.centre(0, 1, 1));
         ChitWright y = Offices.soft();
+        int received = Offices.ordered(y, 0, false, 20, 100);
+        y.receive(received, 0, 5);
+        Check.due("as many as were received", 0, y.change(received, 0, 5));
+        int cheap = Offices.ordered(y, 1, true, 20, 1);
+        y.change(cheap, 0, 21);
+        Check.due("one cent more", 21, y.centre(1, 0, 1));
         int odd = Offices.ordered(y, 0, true, 19, 1);
         Check.refuses("105 percent of 19 are 19", Check.STATE, y, () -> y.change(odd, 0, 20));
     }
@@ -212,6 +218,13 @@ final class OrdersTest {
         Check.due("spent", 400, x.centre(3, 0, 2));
         Check.due("its supplier stays", 0, x.requestOf(r, 5));
         Check.refuses("ENDED", Check.STATE, x, () -> x.end(r));
+        int second = Offices.approved(x, 3, true, 1, 100);
+        x.edit(second, 0, 1);
+        x.line(second, false, 1, 100);
+        x.send(second);
+        x.order(second, 0);
+        x.invoice(second, 1, 1, 100);
+        Check.refuses("one piece of the second line is held", Check.STATE, x, () -> x.end(second));
         int whole = Offices.ordered(x, 3, true, 1, 100);
         x.invoice(whole, 0, 1, 100);
         Check.due("nothing is left", 0, x.end(whole));

@@ -84,6 +84,9 @@ final class PaymentsTest {
         x.invoice(r, 0, 1, 1000);
         Check.due("0 days are today", 1, x.run(0, true));
         Check.due("10 percent", -3 * 35 - 120, x.account(DISCOUNTS));
+        x.supplier(0, 0, 0, 50, 1, 0);
+        x.invoice(r, 0, 1, 1000);
+        Check.due("1 percent is above 0", 1, x.run(0, true));
     }
 
     private static void moneys() {

@@ -85,8 +85,7 @@ final class RandomTest {
     }
 
     private static boolean isPlain(RuntimeException e) {
-        boolean isOfUs = e.getStackTrace().length > 0 && e.getStackTrace()[0].getClassName().startsWith("ChitWright");
-        return isOfUs && (e.getClass() == Check.NUMBER || e.getClass() == Check.RANGE || e.getClass() == Check.STATE);
+        return Check.isThrownByHand(e) && (e.getClass() == Check.NUMBER || e.getClass() == Check.RANGE || e.getClass() == Check.STATE);
     }
 
     private void office(int kind) {

@@ -277,6 +277,12 @@ final class RequestsTest {
         Check.due("APPROVED", 1, x.edit(r, 1, 2));
         Check.due("a DRAFT once more", ChitWright.DRAFT, x.requestOf(r, 0));
         Check.due("all free", 250000, x.centre(0, 0, 3));
+        x.controller(4);
+        int smaller = bigOne(x, 3);
+        Check.due("with the controller", 4, x.requestOf(smaller, 4));
+        x.edit(smaller, 0, 1);
+        Check.due("without the controller", 3, x.send(smaller));
+        Check.refuses("not the controller any more", Check.STATE, x, () -> x.approve(smaller, 4));
         int ordered = Offices.ordered(x, 0, true, 1, 1);
         Check.refuses("ORDERED", Check.STATE, x, () -> x.edit(ordered, 0, 1));
         Check.refuses("ORDERED, out of range", Check.RANGE, x, () -> x.edit(ordered, 0, 0));

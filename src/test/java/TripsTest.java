@@ -234,6 +234,16 @@ final class TripsTest {
         asWritten(x, Integer.MIN_VALUE, 1);
         x.sample(-7, 99);
         asWritten(x, -7, 99);
+        x.sample(1234567890, 50);
+        asWritten(x, 1234567890, 50);
+        x.sample(-987654321, 50);
+        asWritten(x, -987654321, 50);
+        x.sample(45458, 39);
+        Check.due("the last seed ahead of a carry", true, x.isSampled(0, 1));
+        x.sample(45459, 39);
+        Check.due("with the carry", false, x.isSampled(0, 1));
+        x.sample(12345, 0);
+        Check.due("none again", 0, sampled(x, 0, 60) + sampled(x, 1, 30) + sampled(x, 2, 40));
         Check.refuses("kind 3", Check.RANGE, x, () -> x.isSampled(3, 99));
         Check.refuses("kind -1", Check.RANGE, x, () -> x.isSampled(-1, -1));
         Check.refuses("invoice 60", Check.NUMBER, x, () -> x.isSampled(0, 60));
