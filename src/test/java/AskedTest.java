@@ -33,12 +33,12 @@ final class AskedTest {
         Check.due("commitment", 300, x.centre(3, 0, 1));
         Check.due("spent", 300, x.centre(3, 0, 2));
         Check.due("free", 400, x.centre(3, 0, 3));
-        Check.refuses("centre 6", Check.NUMBER, x, () -> x.centre(6, 0, 4));
-        Check.refuses("centre -1", Check.NUMBER, x, () -> x.centre(-1, 0, 0));
-        Check.refuses("year 3", Check.NUMBER, x, () -> x.centre(0, 3, 4));
-        Check.refuses("year -1", Check.NUMBER, x, () -> x.centre(0, -1, -1));
-        Check.refuses("what 4", Check.RANGE, x, () -> x.centre(0, 0, 4));
-        Check.refuses("what -1", Check.RANGE, x, () -> x.centre(0, 0, -1));
+        Check.refuses("centre 6", Check.NUMBER, () -> x.centre(6, 0, 4));
+        Check.refuses("centre -1", Check.NUMBER, () -> x.centre(-1, 0, 0));
+        Check.refuses("year 3", Check.NUMBER, () -> x.centre(0, 3, 4));
+        Check.refuses("year -1", Check.NUMBER, () -> x.centre(0, -1, -1));
+        Check.refuses("what 4", Check.RANGE, () -> x.centre(0, 0, 4));
+        Check.refuses("what -1", Check.RANGE, () -> x.centre(0, 0, -1));
     }
 
     private static void promise38() {
@@ -51,10 +51,10 @@ final class AskedTest {
         for (int w = 0; w < 6; w++) {
             Check.due("what " + w, sent[w], x.requestOf(r, w));
         }
-        Check.refuses("request 1", Check.NUMBER, x, () -> x.requestOf(1, 6));
-        Check.refuses("request -1", Check.NUMBER, x, () -> x.requestOf(-1, 0));
-        Check.refuses("what 6", Check.RANGE, x, () -> x.requestOf(r, 6));
-        Check.refuses("what -1", Check.RANGE, x, () -> x.requestOf(r, -1));
+        Check.refuses("request 1", Check.NUMBER, () -> x.requestOf(1, 6));
+        Check.refuses("request -1", Check.NUMBER, () -> x.requestOf(-1, 0));
+        Check.refuses("what 6", Check.RANGE, () -> x.requestOf(r, 6));
+        Check.refuses("what -1", Check.RANGE, () -> x.requestOf(r, -1));
     }
 
     private static void promise39() {
@@ -68,8 +68,8 @@ final class AskedTest {
         Check.due("APPROVED", ChitWright.NONE, x.next(r));
         x.order(r, 0);
         Check.due("ORDERED", ChitWright.NONE, x.next(r));
-        Check.refuses("request 1", Check.NUMBER, x, () -> x.next(1));
-        Check.refuses("request -1", Check.NUMBER, x, () -> x.next(-1));
+        Check.refuses("request 1", Check.NUMBER, () -> x.next(1));
+        Check.refuses("request -1", Check.NUMBER, () -> x.next(-1));
     }
 
     private static void promise40() {
@@ -83,12 +83,12 @@ final class AskedTest {
         for (int w = 0; w < 5; w++) {
             Check.due("what " + w, line[w], x.lineOf(r, 0, w));
         }
-        Check.refuses("request 1", Check.NUMBER, x, () -> x.lineOf(1, 0, 5));
-        Check.refuses("request -1", Check.NUMBER, x, () -> x.lineOf(-1, 0, 0));
-        Check.refuses("line 1", Check.NUMBER, x, () -> x.lineOf(r, 1, 5));
-        Check.refuses("line -1", Check.NUMBER, x, () -> x.lineOf(r, -1, 0));
-        Check.refuses("what 5", Check.RANGE, x, () -> x.lineOf(r, 0, 5));
-        Check.refuses("what -1", Check.RANGE, x, () -> x.lineOf(r, 0, -1));
+        Check.refuses("request 1", Check.NUMBER, () -> x.lineOf(1, 0, 5));
+        Check.refuses("request -1", Check.NUMBER, () -> x.lineOf(-1, 0, 0));
+        Check.refuses("line 1", Check.NUMBER, () -> x.lineOf(r, 1, 5));
+        Check.refuses("line -1", Check.NUMBER, () -> x.lineOf(r, -1, 0));
+        Check.refuses("what 5", Check.RANGE, () -> x.lineOf(r, 0, 5));
+        Check.refuses("what -1", Check.RANGE, () -> x.lineOf(r, 0, -1));
     }
 
     private static void promise41() {
@@ -107,10 +107,10 @@ final class AskedTest {
         for (int w = 0; w < 8; w++) {
             Check.due("stopped, what " + w, stopped[w], x.invoiceOf(0, w));
         }
-        Check.refuses("invoice 1", Check.NUMBER, x, () -> x.invoiceOf(1, 8));
-        Check.refuses("invoice -1", Check.NUMBER, x, () -> x.invoiceOf(-1, 0));
-        Check.refuses("what 8", Check.RANGE, x, () -> x.invoiceOf(0, 8));
-        Check.refuses("what -1", Check.RANGE, x, () -> x.invoiceOf(0, -1));
+        Check.refuses("invoice 1", Check.NUMBER, () -> x.invoiceOf(1, 8));
+        Check.refuses("invoice -1", Check.NUMBER, () -> x.invoiceOf(-1, 0));
+        Check.refuses("what 8", Check.RANGE, () -> x.invoiceOf(0, 8));
+        Check.refuses("what -1", Check.RANGE, () -> x.invoiceOf(0, -1));
     }
 
     private static void promise42() {
@@ -120,18 +120,18 @@ final class AskedTest {
         Check.due("owed", 300, x.staff(1, 0));
         Check.due("advances", 100, x.staff(1, 1));
         Check.due("not the other one", 0, x.staff(0, 0));
-        Check.refuses("person 2", Check.NUMBER, x, () -> x.staff(2, 2));
-        Check.refuses("person -1", Check.NUMBER, x, () -> x.staff(-1, 0));
-        Check.refuses("what 2", Check.RANGE, x, () -> x.staff(0, 2));
-        Check.refuses("what -1", Check.RANGE, x, () -> x.staff(0, -1));
+        Check.refuses("person 2", Check.NUMBER, () -> x.staff(2, 2));
+        Check.refuses("person -1", Check.NUMBER, () -> x.staff(-1, 0));
+        Check.refuses("what 2", Check.RANGE, () -> x.staff(0, 2));
+        Check.refuses("what -1", Check.RANGE, () -> x.staff(0, -1));
     }
 
     private static void promise45() {
         ChitWright x = Offices.soft();
         x.advance(0, 100);
         Check.due("BANK", -100, x.account(ChitWright.BANK));
-        Check.refuses("account 9", Check.NUMBER, x, () -> x.account(9));
-        Check.refuses("account -1", Check.NUMBER, x, () -> x.account(-1));
+        Check.refuses("account 9", Check.NUMBER, () -> x.account(9));
+        Check.refuses("account -1", Check.NUMBER, () -> x.account(-1));
     }
 
     private static void closing() {

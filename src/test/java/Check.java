@@ -26,29 +26,46 @@ final class Check {
         due(what, want ? 1 : 0, got ? 1 : 0);
     }
 
-    /** The class itself throws exactly that, and nothing that can be asked is another one behind it. */
-    static void refuses(String what, Class<?> want, ChitWright x, Act call) {
+    static void due(String what, String want, String got) {
         checks++;
-        String before = Offices.picture(x);
-        Class<?> got = null;
-        try {
-            call.run();
-        } catch (RuntimeException e) {
-            got = isThrownByHand(e) ? e.getClass() : null;
+        if (!want.equals(got)) {
+            wrong++;
+            int at = 0;
+            while (at < want.length() && at < got.length() && want.charAt(at) == got.charAt(at)) {
+                at++;
+            }
+            System.out.println("  " + what + " told \"" + near(got, at) + "\", due is \"" + near(want, at) + "\"");
         }
+    }
+
+    private static String near(String text, int at) {
+        return text.substring(Math.max(0, at - 40), Math.min(text.length(), at + 20));
+    }
+
+    /** The class itself throws exactly that. That nothing is changed by it, Refusals asks. */
+    static void refuses(String what, Class<?> want, Act call) {
+        checks++;
+        Class<?> got = thrownBy(call);
         if (got != want) {
             wrong++;
             System.out.println("  " + what + " threw " + got + ", due is " + want);
         }
-        if (!before.equals(Offices.picture(x))) {
-            wrong++;
-            System.out.println("  " + what + " changed something");
+    }
+
+    /** The class of what a call throws by a throw of its own, null if nothing, RuntimeException if the machine threw. */
+    static Class<?> thrownBy(Act call) {
+        try {
+            call.run();
+            return null;
+        } catch (RuntimeException e) {
+            return isThrownByHand(e) ? e.getClass() : RuntimeException.class;
         }
     }
 
-    static boolean isThrownByHand(RuntimeException e) {
+    private static boolean isThrownByHand(RuntimeException e) {
         StackTraceElement[] trace = e.getStackTrace();
-        return trace.length > 0 && trace[0].getClassName().startsWith("ChitWright");
+        boolean isOfTheClass = trace.length > 0 && trace[0].getClassName().startsWith("ChitWright");
+        return isOfTheClass && (e.getClass() == NUMBER || e.getClass() == RANGE || e.getClass() == STATE);
     }
 
     static void close(String test) {

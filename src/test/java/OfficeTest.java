@@ -32,30 +32,30 @@ final class OfficeTest {
             }
             Check.due("hard at first", false, x.soft(c, false));
         }
-        Check.refuses("staff(0, 0)", Check.NUMBER, x, () -> x.staff(0, 0));
-        Check.refuses("requestOf(0, 0)", Check.NUMBER, x, () -> x.requestOf(0, 0));
-        Check.refuses("invoiceOf(0, 0)", Check.NUMBER, x, () -> x.invoiceOf(0, 0));
-        Check.refuses("tripCost(0)", Check.NUMBER, x, () -> x.tripCost(0));
-        Check.refuses("isTold(0)", Check.NUMBER, x, () -> x.isTold(0));
+        Check.refuses("staff(0, 0)", Check.NUMBER, () -> x.staff(0, 0));
+        Check.refuses("requestOf(0, 0)", Check.NUMBER, () -> x.requestOf(0, 0));
+        Check.refuses("invoiceOf(0, 0)", Check.NUMBER, () -> x.invoiceOf(0, 0));
+        Check.refuses("tripCost(0)", Check.NUMBER, () -> x.tripCost(0));
+        Check.refuses("isTold(0)", Check.NUMBER, () -> x.isTold(0));
         Check.due("nothing to pay", 0, x.run(2000, true));
         Check.due("no card to pay", 0, x.payCard());
     }
 
     private static void promise2() {
         ChitWright x = new ChitWright();
-        Check.refuses("boss 0 of nobody", Check.NUMBER, x, () -> x.person(0, 5));
+        Check.refuses("boss 0 of nobody", Check.NUMBER, () -> x.person(0, 5));
         Check.due("first", 0, x.person(NONE, 0));
         Check.due("second", 1, x.person(0, 10000000));
-        Check.refuses("boss -2", Check.NUMBER, x, () -> x.person(-2, 5));
-        Check.refuses("boss 2, limit out of range", Check.NUMBER, x, () -> x.person(2, -1));
-        Check.refuses("limit -1", Check.RANGE, x, () -> x.person(0, -1));
-        Check.refuses("limit 10000001", Check.RANGE, x, () -> x.person(0, 10000001));
+        Check.refuses("boss -2", Check.NUMBER, () -> x.person(-2, 5));
+        Check.refuses("boss 2, limit out of range", Check.NUMBER, () -> x.person(2, -1));
+        Check.refuses("limit -1", Check.RANGE, () -> x.person(0, -1));
+        Check.refuses("limit 10000001", Check.RANGE, () -> x.person(0, 10000001));
         for (int i = 2; i < 12; i++) {
             Check.due("person", i, x.person(i - 1, i));
         }
-        Check.refuses("a 13th", Check.STATE, x, () -> x.person(0, 1));
-        Check.refuses("a 13th, limit out of range", Check.RANGE, x, () -> x.person(0, -1));
-        Check.refuses("a 13th, boss 12", Check.NUMBER, x, () -> x.person(12, 1));
+        Check.refuses("a 13th", Check.STATE, () -> x.person(0, 1));
+        Check.refuses("a 13th, limit out of range", Check.RANGE, () -> x.person(0, -1));
+        Check.refuses("a 13th, boss 12", Check.NUMBER, () -> x.person(12, 1));
         x.soft(0, true);
         int request = x.request(11, 0);
         x.line(request, true, 1, 11);
@@ -78,26 +78,26 @@ final class OfficeTest {
         x.absent(0, 0, 1);
         Check.due("in place of before", 0, x.next(request));
         x.absent(0, 2, 2);
-        Check.refuses("person 3", Check.NUMBER, x, () -> x.absent(3, 5, 0));
-        Check.refuses("person -1", Check.NUMBER, x, () -> x.absent(-1, 5, 0));
-        Check.refuses("substitute 3", Check.NUMBER, x, () -> x.absent(0, -1, 3));
-        Check.refuses("substitute NONE", Check.NUMBER, x, () -> x.absent(0, 5, NONE));
-        Check.refuses("until -1", Check.RANGE, x, () -> x.absent(0, -1, 2));
-        Check.refuses("until 1080", Check.RANGE, x, () -> x.absent(0, 1080, 2));
-        Check.refuses("the same", Check.RANGE, x, () -> x.absent(0, 5, 0));
+        Check.refuses("person 3", Check.NUMBER, () -> x.absent(3, 5, 0));
+        Check.refuses("person -1", Check.NUMBER, () -> x.absent(-1, 5, 0));
+        Check.refuses("substitute 3", Check.NUMBER, () -> x.absent(0, -1, 3));
+        Check.refuses("substitute NONE", Check.NUMBER, () -> x.absent(0, 5, NONE));
+        Check.refuses("until -1", Check.RANGE, () -> x.absent(0, -1, 2));
+        Check.refuses("until 1080", Check.RANGE, () -> x.absent(0, 1080, 2));
+        Check.refuses("the same", Check.RANGE, () -> x.absent(0, 5, 0));
         Check.due("absent as before", 2, x.next(request));
     }
 
     private static void promise4() {
         ChitWright x = new ChitWright();
-        Check.refuses("no person", Check.NUMBER, x, () -> x.controller(0));
+        Check.refuses("no person", Check.NUMBER, () -> x.controller(0));
         x.person(NONE, 0);
         x.person(NONE, 0);
         x.person(NONE, 0);
         Check.due("the first one is", 0, x.controller(2));
         Check.due("then 2", 2, x.controller(1));
-        Check.refuses("person 3", Check.NUMBER, x, () -> x.controller(3));
-        Check.refuses("person -1", Check.NUMBER, x, () -> x.controller(-1));
+        Check.refuses("person 3", Check.NUMBER, () -> x.controller(3));
+        Check.refuses("person -1", Check.NUMBER, () -> x.controller(-1));
         Check.due("still 1", 1, x.controller(1));
         Check.due("1 again", 1, x.controller(0));
     }
@@ -110,12 +110,12 @@ final class OfficeTest {
         Check.due("told", 7, x.centre(5, 2, 0));
         Check.due("another year", 0, x.centre(5, 1, 0));
         Check.due("another centre", 0, x.centre(4, 2, 0));
-        Check.refuses("centre 6", Check.NUMBER, x, () -> x.budget(6, 0, -1));
-        Check.refuses("centre -1", Check.NUMBER, x, () -> x.budget(-1, 0, 1));
-        Check.refuses("year 3", Check.NUMBER, x, () -> x.budget(0, 3, -1));
-        Check.refuses("year -1", Check.NUMBER, x, () -> x.budget(0, -1, 1));
-        Check.refuses("amount -1", Check.RANGE, x, () -> x.budget(0, 0, -1));
-        Check.refuses("amount 100000001", Check.RANGE, x, () -> x.budget(0, 0, 100000001));
+        Check.refuses("centre 6", Check.NUMBER, () -> x.budget(6, 0, -1));
+        Check.refuses("centre -1", Check.NUMBER, () -> x.budget(-1, 0, 1));
+        Check.refuses("year 3", Check.NUMBER, () -> x.budget(0, 3, -1));
+        Check.refuses("year -1", Check.NUMBER, () -> x.budget(0, -1, 1));
+        Check.refuses("amount -1", Check.RANGE, () -> x.budget(0, 0, -1));
+        Check.refuses("amount 100000001", Check.RANGE, () -> x.budget(0, 0, 100000001));
         x.budget(1, 0, 500);
         Offices.approved(x, 1, true, 1, 400);
         x.budget(1, 0, 300);
@@ -129,22 +129,22 @@ final class OfficeTest {
         Check.due("all of it", 1050, x.transfer(0, 1, 1, 1000));
         Check.due("from", 0, x.centre(0, 1, 0));
         Check.due("to", 1050, x.centre(1, 1, 0));
-        Check.refuses("one more", Check.STATE, x, () -> x.transfer(1, 0, 1, 1051));
-        Check.refuses("another year", Check.STATE, x, () -> x.transfer(1, 0, 0, 1));
-        Check.refuses("from 6", Check.NUMBER, x, () -> x.transfer(6, 0, 1, 1));
-        Check.refuses("from -1", Check.NUMBER, x, () -> x.transfer(-1, 0, 1, 1));
-        Check.refuses("to 6", Check.NUMBER, x, () -> x.transfer(1, 6, 1, 0));
-        Check.refuses("to -1", Check.NUMBER, x, () -> x.transfer(1, -1, 1, 0));
-        Check.refuses("year 3", Check.NUMBER, x, () -> x.transfer(1, 1, 3, 1));
-        Check.refuses("year -1", Check.NUMBER, x, () -> x.transfer(1, 1, -1, 1));
-        Check.refuses("the same", Check.RANGE, x, () -> x.transfer(1, 1, 1, 1));
-        Check.refuses("amount 0", Check.RANGE, x, () -> x.transfer(1, 0, 1, 0));
-        Check.refuses("amount 100000001", Check.RANGE, x, () -> x.transfer(1, 0, 1, 100000001));
+        Check.refuses("one more", Check.STATE, () -> x.transfer(1, 0, 1, 1051));
+        Check.refuses("another year", Check.STATE, () -> x.transfer(1, 0, 0, 1));
+        Check.refuses("from 6", Check.NUMBER, () -> x.transfer(6, 0, 1, 1));
+        Check.refuses("from -1", Check.NUMBER, () -> x.transfer(-1, 0, 1, 1));
+        Check.refuses("to 6", Check.NUMBER, () -> x.transfer(1, 6, 1, 0));
+        Check.refuses("to -1", Check.NUMBER, () -> x.transfer(1, -1, 1, 0));
+        Check.refuses("year 3", Check.NUMBER, () -> x.transfer(1, 1, 3, 1));
+        Check.refuses("year -1", Check.NUMBER, () -> x.transfer(1, 1, -1, 1));
+        Check.refuses("the same", Check.RANGE, () -> x.transfer(1, 1, 1, 1));
+        Check.refuses("amount 0", Check.RANGE, () -> x.transfer(1, 0, 1, 0));
+        Check.refuses("amount 100000001", Check.RANGE, () -> x.transfer(1, 0, 1, 100000001));
         x.soft(1, true);
-        Check.refuses("soft ones too", Check.STATE, x, () -> x.transfer(1, 0, 1, 1051));
+        Check.refuses("soft ones too", Check.STATE, () -> x.transfer(1, 0, 1, 1051));
         x.budget(2, 0, 1000);
         Offices.approved(x, 2, true, 1, 400);
-        Check.refuses("what is committed is not free", Check.STATE, x, () -> x.transfer(2, 3, 0, 601));
+        Check.refuses("what is committed is not free", Check.STATE, () -> x.transfer(2, 3, 0, 601));
         Check.due("what is free", 600, x.transfer(2, 3, 0, 600));
         Check.due("free in to, less its commitment", 100, x.transfer(3, 2, 0, 100));
         x.budget(4, 0, 100000000);
@@ -154,7 +154,7 @@ final class OfficeTest {
     private static void promise7() {
         ChitWright x = Offices.hard();
         int request = Offices.draft(x, 5, true, 1, 1);
-        Check.refuses("hard", Check.STATE, x, () -> x.send(request));
+        Check.refuses("hard", Check.STATE, () -> x.send(request));
         Check.due("was hard", false, x.soft(5, true));
         Check.due("is soft", true, x.soft(5, true));
         Check.due("another one", false, x.soft(0, false));
@@ -162,17 +162,17 @@ final class OfficeTest {
         Check.due("free below 0", -1, x.centre(5, 0, 3));
         Check.due("was soft", true, x.soft(5, false));
         int other = Offices.draft(x, 5, true, 1, 1);
-        Check.refuses("hard again", Check.STATE, x, () -> x.send(other));
-        Check.refuses("centre 6", Check.NUMBER, x, () -> x.soft(6, true));
-        Check.refuses("centre -1", Check.NUMBER, x, () -> x.soft(-1, true));
+        Check.refuses("hard again", Check.STATE, () -> x.send(other));
+        Check.refuses("centre 6", Check.NUMBER, () -> x.soft(6, true));
+        Check.refuses("centre -1", Check.NUMBER, () -> x.soft(-1, true));
     }
 
     private static void promise8() {
         ChitWright x = Offices.hard();
         Check.due("0 at first", 0, x.carried(100));
         Check.due("all", 100, x.carried(33));
-        Check.refuses("-1", Check.RANGE, x, () -> x.carried(-1));
-        Check.refuses("101", Check.RANGE, x, () -> x.carried(101));
+        Check.refuses("-1", Check.RANGE, () -> x.carried(-1));
+        Check.refuses("101", Check.RANGE, () -> x.carried(101));
         Check.due("33", 33, x.carried(33));
         x.budget(0, 0, 101);
         x.pass(360);
@@ -211,30 +211,30 @@ final class OfficeTest {
     }
 
     private static void wrongSuppliers(ChitWright x) {
-        Check.refuses("supplier 6", Check.NUMBER, x, () -> x.supplier(6, 0, 0, -1, 0, 0));
-        Check.refuses("supplier -1", Check.NUMBER, x, () -> x.supplier(-1, 0, 0, 0, 0, 0));
-        Check.refuses("country 3", Check.NUMBER, x, () -> x.supplier(0, 3, 0, 0, 11, 0));
-        Check.refuses("country -1", Check.NUMBER, x, () -> x.supplier(0, -1, 0, 0, 0, 0));
-        Check.refuses("money 3", Check.NUMBER, x, () -> x.supplier(0, 0, 3, 0, 0, 31));
-        Check.refuses("money -1", Check.NUMBER, x, () -> x.supplier(0, 0, -1, 0, 0, 0));
-        Check.refuses("terms 91", Check.RANGE, x, () -> x.supplier(0, 0, 0, 91, 0, 0));
-        Check.refuses("terms -1", Check.RANGE, x, () -> x.supplier(0, 0, 0, -1, 0, 0));
-        Check.refuses("discount 11", Check.RANGE, x, () -> x.supplier(0, 0, 0, 0, 11, 0));
-        Check.refuses("discount -1", Check.RANGE, x, () -> x.supplier(0, 0, 0, 0, -1, 0));
-        Check.refuses("days 31", Check.RANGE, x, () -> x.supplier(0, 0, 0, 0, 0, 31));
-        Check.refuses("days -1", Check.RANGE, x, () -> x.supplier(0, 0, 0, 0, 0, -1));
+        Check.refuses("supplier 6", Check.NUMBER, () -> x.supplier(6, 0, 0, -1, 0, 0));
+        Check.refuses("supplier -1", Check.NUMBER, () -> x.supplier(-1, 0, 0, 0, 0, 0));
+        Check.refuses("country 3", Check.NUMBER, () -> x.supplier(0, 3, 0, 0, 11, 0));
+        Check.refuses("country -1", Check.NUMBER, () -> x.supplier(0, -1, 0, 0, 0, 0));
+        Check.refuses("money 3", Check.NUMBER, () -> x.supplier(0, 0, 3, 0, 0, 31));
+        Check.refuses("money -1", Check.NUMBER, () -> x.supplier(0, 0, -1, 0, 0, 0));
+        Check.refuses("terms 91", Check.RANGE, () -> x.supplier(0, 0, 0, 91, 0, 0));
+        Check.refuses("terms -1", Check.RANGE, () -> x.supplier(0, 0, 0, -1, 0, 0));
+        Check.refuses("discount 11", Check.RANGE, () -> x.supplier(0, 0, 0, 0, 11, 0));
+        Check.refuses("discount -1", Check.RANGE, () -> x.supplier(0, 0, 0, 0, -1, 0));
+        Check.refuses("days 31", Check.RANGE, () -> x.supplier(0, 0, 0, 0, 0, 31));
+        Check.refuses("days -1", Check.RANGE, () -> x.supplier(0, 0, 0, 0, 0, -1));
     }
 
     private static void promise10() {
         ChitWright x = Offices.soft();
         Check.due("1000 at first", 1000, x.rate(1, 100));
         Check.due("2 has its own", 1000, x.rate(2, 10000));
-        Check.refuses("money 0", Check.NUMBER, x, () -> x.rate(0, 1000));
-        Check.refuses("money 3", Check.NUMBER, x, () -> x.rate(3, 1));
-        Check.refuses("money -1", Check.NUMBER, x, () -> x.rate(-1, 1));
-        Check.refuses("money 0, rate 1", Check.NUMBER, x, () -> x.rate(0, 1));
-        Check.refuses("rate 99", Check.RANGE, x, () -> x.rate(1, 99));
-        Check.refuses("rate 10001", Check.RANGE, x, () -> x.rate(2, 10001));
+        Check.refuses("money 0", Check.NUMBER, () -> x.rate(0, 1000));
+        Check.refuses("money 3", Check.NUMBER, () -> x.rate(3, 1));
+        Check.refuses("money -1", Check.NUMBER, () -> x.rate(-1, 1));
+        Check.refuses("money 0, rate 1", Check.NUMBER, () -> x.rate(0, 1));
+        Check.refuses("rate 99", Check.RANGE, () -> x.rate(1, 99));
+        Check.refuses("rate 10001", Check.RANGE, () -> x.rate(2, 10001));
         x.supplier(0, 1, 1, 0, 0, 0);
         x.supplier(1, 1, 2, 0, 0, 0);
         int one = Offices.ordered(x, 0, true, 99, 100000);
@@ -263,10 +263,10 @@ final class OfficeTest {
         x.taxes(10, 0);
         x.invoice(request, 0, 1, 999);
         Check.due("nothing comes back", 999 + 99, x.invoiceOf(2, 4));
-        Check.refuses("-1", Check.RANGE, x, () -> x.taxes(-1, 100));
-        Check.refuses("31", Check.RANGE, x, () -> x.taxes(31, 100));
-        Check.refuses("back -1", Check.RANGE, x, () -> x.taxes(20, -1));
-        Check.refuses("back 101", Check.RANGE, x, () -> x.taxes(20, 101));
+        Check.refuses("-1", Check.RANGE, () -> x.taxes(-1, 100));
+        Check.refuses("31", Check.RANGE, () -> x.taxes(31, 100));
+        Check.refuses("back -1", Check.RANGE, () -> x.taxes(20, -1));
+        Check.refuses("back 101", Check.RANGE, () -> x.taxes(20, 101));
         x.invoice(request, 0, 1, 999);
         Check.due("as before", 999 + 99, x.invoiceOf(3, 4));
         x.taxes(0, 100);
@@ -276,16 +276,16 @@ final class OfficeTest {
 
     private static void promise12() {
         ChitWright x = Offices.soft();
-        Check.refuses("0", Check.RANGE, x, () -> x.pass(0));
-        Check.refuses("-1", Check.RANGE, x, () -> x.pass(-1));
-        Check.refuses("361", Check.RANGE, x, () -> x.pass(361));
+        Check.refuses("0", Check.RANGE, () -> x.pass(0));
+        Check.refuses("-1", Check.RANGE, () -> x.pass(-1));
+        Check.refuses("361", Check.RANGE, () -> x.pass(361));
         Check.due("1", 1, x.pass(1));
         Check.due("361", 361, x.pass(360));
         Check.due("720", 720, x.pass(359));
-        Check.refuses("1080", Check.STATE, x, () -> x.pass(360));
-        Check.refuses("out of range", Check.RANGE, x, () -> x.pass(1000));
+        Check.refuses("1080", Check.STATE, () -> x.pass(360));
+        Check.refuses("out of range", Check.RANGE, () -> x.pass(1000));
         Check.due("1079", 1079, x.pass(359));
-        Check.refuses("one more", Check.STATE, x, () -> x.pass(1));
+        Check.refuses("one more", Check.STATE, () -> x.pass(1));
         Check.due("day", 1079, x.day());
     }
 }

@@ -1,7 +1,29 @@
-/** Offices to begin a test with, and a picture of all that can be asked of one. */
+/** Offices to begin a test with. */
 final class Offices {
     static final int BOSS = 0;
     static final int CLERK = 1;
+
+    /** In busy(): a DRAFT without a line, one with 4, one whose total is above what is free, and what there is of each kind. */
+    static final int EMPTY = 6;
+    static final int LONG = 7;
+    static final int POOR = 8;
+    static final int PERSONS = 4;
+    static final int REQUESTS = 9;
+    static final int INVOICES = 7;
+    static final int TRIPS = 2;
+    static final int ENTRIES = 2;
+
+    /** In busy(): invoices beside HELD for pieces, BOOKED and PAID, which have the numbers of their states. */
+    static final int STOPPED = 3;
+    static final int DEAR = 4;
+    static final int DEAR_AND_MANY = 5;
+    static final int LET_GO = 6;
+
+    /** In busy(): the boss of all, a boss in the middle, a clerk, and the controller, who is beside them. */
+    static final int MIDDLE = 1;
+    static final int LOW = 2;
+    static final int CONTROLLER = 3;
+    static final int HARD_CENTRE = 1;
 
     private Offices() {
     }
@@ -42,93 +64,113 @@ final class Offices {
         return request;
     }
 
-    static String picture(ChitWright x) {
-        StringBuilder text = new StringBuilder();
-        text.append(x.day());
-        for (int i = 0; i < 9; i++) {
-            text.append(' ').append(x.account(i));
-        }
-        for (int c = 0; c < 6; c++) {
-            for (int y = 0; y < 3; y++) {
-                for (int w = 0; w < 4; w++) {
-                    text.append(' ').append(x.centre(c, y, w));
-                }
-            }
-        }
-        persons(x, text);
-        requests(x, text);
-        invoices(x, text);
-        trips(x, text);
-        entries(x, text);
-        return text.toString();
+    /** An office on day 10 that has a request of each state, with the number of the state, and an invoice of each kind. */
+    static ChitWright busy() {
+        ChitWright x = withoutInvoices();
+        busyInvoices(x);
+        x.trip(LOW, 2, 0, 3, 1, 2, 40);
+        x.trip(BOSS, 3, 0, 1, 0, 0, 0);
+        x.card(LOW, 900);
+        x.card(MIDDLE, 1000);
+        x.tell(0, 4, 250);
+        x.advance(LOW, 5000);
+        return x;
     }
 
-    private static void persons(ChitWright x, StringBuilder text) {
-        for (int i = 0; i < 13; i++) {
-            try {
-                text.append(" p").append(x.staff(i, 0)).append(' ').append(x.staff(i, 1));
-            } catch (IndexOutOfBoundsException e) {
-                return;
-            }
+    /** The same office ahead of all parts received, invoices, trips, cards and advances. */
+    static ChitWright withoutInvoices() {
+        ChitWright x = new ChitWright();
+        x.person(ChitWright.NONE, 10000000);
+        x.person(BOSS, 50000);
+        x.person(MIDDLE, 0);
+        x.person(ChitWright.NONE, 0);
+        x.controller(CONTROLLER);
+        for (int i = 0; i < 6; i++) {
+            x.soft(i, i != HARD_CENTRE);
+            x.budget(i, 0, i == HARD_CENTRE ? 500 : 1000000);
         }
+        x.carried(30);
+        x.supplier(1, 1, 1, 20, 5, 6);
+        x.rate(1, 1500);
+        x.taxes(19, 50);
+        x.place(0, 3000);
+        x.sample(77, 50);
+        x.pass(10);
+        busyRequests(x);
+        return x;
     }
 
-    private static void requests(ChitWright x, StringBuilder text) {
-        for (int i = 0; i < 41; i++) {
-            try {
-                text.append(" r").append(x.next(i));
-            } catch (IndexOutOfBoundsException e) {
-                return;
-            }
-            for (int w = 0; w < 6; w++) {
-                text.append(' ').append(x.requestOf(i, w));
-            }
-            lines(x, i, text);
+    private static void busyRequests(ChitWright x) {
+        for (int i = 0; i < EMPTY; i++) {
+            x.request(LOW, 0);
+            x.line(i, false, 40, 100);
+            x.line(i, true, 5, 30000);
         }
+        x.request(BOSS, 2);
+        x.request(BOSS, 2);
+        for (int i = 0; i < 4; i++) {
+            x.line(LONG, i % 2 == 0, 9, 70);
+        }
+        x.request(BOSS, HARD_CENTRE);
+        x.line(POOR, true, 3, 167);
+        for (int i = ChitWright.SENT; i <= ChitWright.ENDED; i++) {
+            x.send(i);
+        }
+        x.refuse(ChitWright.REFUSED, MIDDLE);
+        approveAll(x, ChitWright.APPROVED);
+        approveAll(x, ChitWright.ORDERED);
+        approveAll(x, ChitWright.ENDED);
+        x.order(ChitWright.ORDERED, 1);
+        x.order(ChitWright.ENDED, 1);
+        x.end(ChitWright.ENDED);
     }
 
-    private static void lines(ChitWright x, int request, StringBuilder text) {
-        for (int i = 0; i < 5; i++) {
-            try {
-                for (int w = 0; w < 5; w++) {
-                    text.append(" l").append(x.lineOf(request, i, w));
-                }
-            } catch (IndexOutOfBoundsException e) {
-                return;
-            }
-        }
+    private static void approveAll(ChitWright x, int request) {
+        x.approve(request, MIDDLE);
+        x.approve(request, CONTROLLER);
+        x.approve(request, BOSS);
     }
 
-    private static void invoices(ChitWright x, StringBuilder text) {
-        for (int i = 0; i < 61; i++) {
-            try {
-                text.append(" i").append(x.isSampled(0, i));
-            } catch (IndexOutOfBoundsException e) {
-                return;
-            }
-            for (int w = 0; w < 8; w++) {
-                text.append(' ').append(x.invoiceOf(i, w));
-            }
-        }
+    private static void busyInvoices(ChitWright x) {
+        int r = ChitWright.ORDERED;
+        x.receive(r, 0, 3);
+        x.invoice(r, 0, 12, 60);
+        x.invoice(r, 0, 4, 60);
+        x.invoice(r, 0, 2, 60);
+        x.invoice(r, 0, 1, 60);
+        x.run(2000, false);
+        x.bounce(STOPPED);
+        x.receive(r, 0, 5);
+        x.invoice(r, 0, 1, 100);
+        x.invoice(r, 0, 2, 100);
+        x.invoice(r, 0, 2, 100);
+        x.letGo(LET_GO, CONTROLLER);
     }
 
-    private static void trips(ChitWright x, StringBuilder text) {
-        for (int i = 0; i < 31; i++) {
-            try {
-                text.append(" t").append(x.tripCost(i)).append(x.isSampled(1, i));
-            } catch (IndexOutOfBoundsException e) {
-                return;
-            }
+    /** As many of each kind as there may be: the requests are of the clerk, and 39 alone has been ordered, with 4 lines. */
+    static ChitWright full() {
+        ChitWright x = soft();
+        for (int i = 2; i < 12; i++) {
+            x.person(i - 1, 0);
         }
-    }
-
-    private static void entries(ChitWright x, StringBuilder text) {
-        for (int i = 0; i < 41; i++) {
-            try {
-                text.append(" e").append(x.isTold(i)).append(x.isSampled(2, i));
-            } catch (IndexOutOfBoundsException e) {
-                return;
-            }
+        for (int i = 0; i < 39; i++) {
+            x.request(CLERK, i % 6);
         }
+        int last = draft(x, 5, true, 99, 1);
+        for (int i = 1; i < 4; i++) {
+            x.line(last, true, 99, 1);
+        }
+        x.send(last);
+        x.order(last, 5);
+        for (int i = 0; i < 60; i++) {
+            x.invoice(last, i % 4, 1, 1);
+        }
+        for (int i = 0; i < 30; i++) {
+            x.trip(11, 0, 0, 1, 0, 0, 1);
+        }
+        for (int i = 0; i < 40; i++) {
+            x.card(11, 100);
+        }
+        return x;
     }
 }

@@ -21,8 +21,8 @@ final class PaymentsTest {
         x.invoice(r, 0, 1, 100);
         x.invoice(r, 0, 1, 300);
         x.invoice(r, 0, 2, 100);
-        Check.refuses("day -1", Check.RANGE, x, () -> x.run(-1, true));
-        Check.refuses("day 2001", Check.RANGE, x, () -> x.run(2001, true));
+        Check.refuses("day -1", Check.RANGE, () -> x.run(-1, true));
+        Check.refuses("day 2001", Check.RANGE, () -> x.run(2001, true));
         Check.due("two are booked", 2, x.run(0, false));
         Check.due("PAID", ChitWright.PAID, x.invoiceOf(0, 0));
         Check.due("owed no more", 0, x.invoiceOf(0, 5));
@@ -128,9 +128,9 @@ final class PaymentsTest {
         x.supplier(0, 0, 0, 3, 10, 3);
         int r = Offices.ordered(x, 0, true, 10, 100);
         x.invoice(r, 0, 2, 100);
-        Check.refuses("invoice 1", Check.NUMBER, x, () -> x.bounce(1));
-        Check.refuses("invoice -1", Check.NUMBER, x, () -> x.bounce(-1));
-        Check.refuses("not PAID", Check.STATE, x, () -> x.bounce(0));
+        Check.refuses("invoice 1", Check.NUMBER, () -> x.bounce(1));
+        Check.refuses("invoice -1", Check.NUMBER, () -> x.bounce(-1));
+        Check.refuses("not PAID", Check.STATE, () -> x.bounce(0));
         x.run(3, true);
         Check.due("what was paid", 216, x.bounce(0));
         Check.due("BOOKED", ChitWright.BOOKED, x.invoiceOf(0, 0));
@@ -141,25 +141,25 @@ final class PaymentsTest {
         Check.due("OWED", -240, x.account(OWED));
         Check.due("its pieces stay booked", 2, x.lineOf(r, 0, 3));
         Check.due("due as before", 3, x.invoiceOf(0, 6));
-        Check.refuses("it was returned", Check.STATE, x, () -> x.bounce(0));
+        Check.refuses("it was returned", Check.STATE, () -> x.bounce(0));
         x.invoice(r, 0, 1, 200);
-        Check.refuses("HELD", Check.STATE, x, () -> x.bounce(1));
+        Check.refuses("HELD", Check.STATE, () -> x.bounce(1));
     }
 
     private static void promise27() {
         ChitWright x = Offices.soft();
         int r = Offices.ordered(x, 0, true, 10, 100);
         x.invoice(r, 0, 2, 100);
-        Check.refuses("invoice 1", Check.NUMBER, x, () -> x.goOn(1));
-        Check.refuses("invoice -1", Check.NUMBER, x, () -> x.goOn(-1));
-        Check.refuses("BOOKED", Check.STATE, x, () -> x.goOn(0));
+        Check.refuses("invoice 1", Check.NUMBER, () -> x.goOn(1));
+        Check.refuses("invoice -1", Check.NUMBER, () -> x.goOn(-1));
+        Check.refuses("BOOKED", Check.STATE, () -> x.goOn(0));
         x.run(0, false);
-        Check.refuses("PAID", Check.STATE, x, () -> x.goOn(0));
+        Check.refuses("PAID", Check.STATE, () -> x.goOn(0));
         x.bounce(0);
         Check.due("it is stopped", 0, x.run(2000, true));
         x.goOn(0);
         Check.due("no more", 0, x.invoiceOf(0, 7));
-        Check.refuses("not twice", Check.STATE, x, () -> x.goOn(0));
+        Check.refuses("not twice", Check.STATE, () -> x.goOn(0));
         Check.due("paid again", 1, x.run(0, false));
         Check.due("returned again", 240, x.bounce(0));
         Check.due("stopped again", 1, x.invoiceOf(0, 7));

@@ -27,10 +27,10 @@ final class TripsTest {
         }
         Check.due("what it was", 3000, x.place(3, 50000));
         Check.due("the most", 50000, x.place(3, 7));
-        Check.refuses("place 4", Check.NUMBER, x, () -> x.place(4, -1));
-        Check.refuses("place -1", Check.NUMBER, x, () -> x.place(-1, 1));
-        Check.refuses("rate -1", Check.RANGE, x, () -> x.place(0, -1));
-        Check.refuses("rate 50001", Check.RANGE, x, () -> x.place(0, 50001));
+        Check.refuses("place 4", Check.NUMBER, () -> x.place(4, -1));
+        Check.refuses("place -1", Check.NUMBER, () -> x.place(-1, 1));
+        Check.refuses("rate -1", Check.RANGE, () -> x.place(0, -1));
+        Check.refuses("rate 50001", Check.RANGE, () -> x.place(0, 50001));
         Check.due("as before", 7, x.place(3, 0));
         Check.due("the others too", 2000, x.place(2, 1));
         x.trip(0, 0, 1, 3, 0, 0, 0);
@@ -41,25 +41,25 @@ final class TripsTest {
     private static void promise29() {
         ChitWright x = Offices.soft();
         x.place(2, 1000);
-        Check.refuses("person 2", Check.NUMBER, x, () -> x.trip(2, 0, 0, 0, 0, 0, 0));
-        Check.refuses("person -1", Check.NUMBER, x, () -> x.trip(-1, 0, 0, 1, 0, 0, 0));
-        Check.refuses("centre 6", Check.NUMBER, x, () -> x.trip(0, 6, 0, 0, 0, 0, 0));
-        Check.refuses("centre -1", Check.NUMBER, x, () -> x.trip(0, -1, 0, 1, 0, 0, 0));
-        Check.refuses("place 4", Check.NUMBER, x, () -> x.trip(0, 0, 4, 0, 0, 0, 0));
-        Check.refuses("place -1", Check.NUMBER, x, () -> x.trip(0, 0, -1, 1, 0, 0, 0));
-        Check.refuses("days 0", Check.RANGE, x, () -> x.trip(0, 0, 2, 0, 0, 0, 0));
-        Check.refuses("days 31", Check.RANGE, x, () -> x.trip(0, 0, 2, 31, 0, 0, 0));
-        Check.refuses("breakfasts -1", Check.RANGE, x, () -> x.trip(0, 0, 2, 2, -1, 0, 0));
-        Check.refuses("breakfasts 3", Check.RANGE, x, () -> x.trip(0, 0, 2, 2, 3, 0, 0));
-        Check.refuses("meals -1", Check.RANGE, x, () -> x.trip(0, 0, 2, 2, 0, -1, 0));
-        Check.refuses("meals 5", Check.RANGE, x, () -> x.trip(0, 0, 2, 2, 0, 5, 0));
-        Check.refuses("kilometres -1", Check.RANGE, x, () -> x.trip(0, 0, 2, 2, 0, 0, -1));
-        Check.refuses("kilometres 5001", Check.RANGE, x, () -> x.trip(0, 0, 2, 2, 0, 0, 5001));
+        Check.refuses("person 2", Check.NUMBER, () -> x.trip(2, 0, 0, 0, 0, 0, 0));
+        Check.refuses("person -1", Check.NUMBER, () -> x.trip(-1, 0, 0, 1, 0, 0, 0));
+        Check.refuses("centre 6", Check.NUMBER, () -> x.trip(0, 6, 0, 0, 0, 0, 0));
+        Check.refuses("centre -1", Check.NUMBER, () -> x.trip(0, -1, 0, 1, 0, 0, 0));
+        Check.refuses("place 4", Check.NUMBER, () -> x.trip(0, 0, 4, 0, 0, 0, 0));
+        Check.refuses("place -1", Check.NUMBER, () -> x.trip(0, 0, -1, 1, 0, 0, 0));
+        Check.refuses("days 0", Check.RANGE, () -> x.trip(0, 0, 2, 0, 0, 0, 0));
+        Check.refuses("days 31", Check.RANGE, () -> x.trip(0, 0, 2, 31, 0, 0, 0));
+        Check.refuses("breakfasts -1", Check.RANGE, () -> x.trip(0, 0, 2, 2, -1, 0, 0));
+        Check.refuses("breakfasts 3", Check.RANGE, () -> x.trip(0, 0, 2, 2, 3, 0, 0));
+        Check.refuses("meals -1", Check.RANGE, () -> x.trip(0, 0, 2, 2, 0, -1, 0));
+        Check.refuses("meals 5", Check.RANGE, () -> x.trip(0, 0, 2, 2, 0, 5, 0));
+        Check.refuses("kilometres -1", Check.RANGE, () -> x.trip(0, 0, 2, 2, 0, 0, -1));
+        Check.refuses("kilometres 5001", Check.RANGE, () -> x.trip(0, 0, 2, 2, 0, 0, 5001));
         for (int i = 0; i < 30; i++) {
             Check.due("trip", i, x.trip(1, 4, 2, 2, 2, 4, 1));
         }
-        Check.refuses("a 31st", Check.STATE, x, () -> x.trip(1, 4, 2, 2, 2, 4, 1));
-        Check.refuses("a 31st, out of range", Check.RANGE, x, () -> x.trip(1, 4, 2, 0, 0, 0, 0));
+        Check.refuses("a 31st", Check.STATE, () -> x.trip(1, 4, 2, 2, 2, 4, 1));
+        Check.refuses("a 31st, out of range", Check.RANGE, () -> x.trip(1, 4, 2, 0, 0, 0, 0));
         Check.due("owed", 900, x.staff(1, 0));
         Check.due("spent", 900, x.centre(4, 0, 2));
         Check.due("COST", 900, x.account(COST));
@@ -94,16 +94,16 @@ final class TripsTest {
         ChitWright x = Offices.hard();
         x.budget(1, 0, 300);
         x.budget(1, 1, 60);
-        Check.refuses("not free", Check.STATE, x, () -> x.trip(0, 1, 0, 1, 0, 0, 11));
+        Check.refuses("not free", Check.STATE, () -> x.trip(0, 1, 0, 1, 0, 0, 11));
         x.trip(0, 1, 0, 1, 0, 0, 10);
         Check.due("free", 0, x.centre(1, 0, 3));
         x.pass(360);
-        Check.refuses("not free in the year of now", Check.STATE, x, () -> x.trip(0, 1, 0, 1, 0, 0, 3));
+        Check.refuses("not free in the year of now", Check.STATE, () -> x.trip(0, 1, 0, 1, 0, 0, 3));
         x.trip(0, 1, 0, 1, 0, 0, 2);
         Check.due("the year of now", 60, x.centre(1, 1, 2));
         Check.due("nothing at no cost", 2, x.trip(0, 1, 0, 1, 0, 0, 0));
-        Check.refuses("no such trip", Check.NUMBER, x, () -> x.tripCost(3));
-        Check.refuses("trip -1", Check.NUMBER, x, () -> x.tripCost(-1));
+        Check.refuses("no such trip", Check.NUMBER, () -> x.tripCost(3));
+        Check.refuses("trip -1", Check.NUMBER, () -> x.tripCost(-1));
     }
 
     private static void promise30() {
@@ -115,10 +115,10 @@ final class TripsTest {
         Check.due("not owed", 0, x.staff(1, 0));
         Check.due("ADVANCES", 1000006, x.account(ADVANCES));
         Check.due("BANK", -1000006, x.account(BANK));
-        Check.refuses("person 2", Check.NUMBER, x, () -> x.advance(2, 0));
-        Check.refuses("person -1", Check.NUMBER, x, () -> x.advance(-1, 1));
-        Check.refuses("amount 0", Check.RANGE, x, () -> x.advance(0, 0));
-        Check.refuses("amount 1000001", Check.RANGE, x, () -> x.advance(0, 1000001));
+        Check.refuses("person 2", Check.NUMBER, () -> x.advance(2, 0));
+        Check.refuses("person -1", Check.NUMBER, () -> x.advance(-1, 1));
+        Check.refuses("amount 0", Check.RANGE, () -> x.advance(0, 0));
+        Check.refuses("amount 1000001", Check.RANGE, () -> x.advance(0, 1000001));
     }
 
     private static void promise31() {
@@ -141,22 +141,22 @@ final class TripsTest {
         Check.due("the private part too", -25, x.settle(1));
         Check.due("STAFF then", 0, x.account(STAFF));
         Check.due("twice", 0, x.settle(1));
-        Check.refuses("person 2", Check.NUMBER, x, () -> x.settle(2));
-        Check.refuses("person -1", Check.NUMBER, x, () -> x.settle(-1));
+        Check.refuses("person 2", Check.NUMBER, () -> x.settle(2));
+        Check.refuses("person -1", Check.NUMBER, () -> x.settle(-1));
     }
 
     private static void promise32() {
         ChitWright x = Offices.soft();
-        Check.refuses("person 2", Check.NUMBER, x, () -> x.card(2, 0));
-        Check.refuses("person -1", Check.NUMBER, x, () -> x.card(-1, 1));
-        Check.refuses("amount 0", Check.RANGE, x, () -> x.card(0, 0));
-        Check.refuses("amount 1000001", Check.RANGE, x, () -> x.card(0, 1000001));
+        Check.refuses("person 2", Check.NUMBER, () -> x.card(2, 0));
+        Check.refuses("person -1", Check.NUMBER, () -> x.card(-1, 1));
+        Check.refuses("amount 0", Check.RANGE, () -> x.card(0, 0));
+        Check.refuses("amount 1000001", Check.RANGE, () -> x.card(0, 1000001));
         for (int i = 0; i < 40; i++) {
             Check.due("entry", i, x.card(i % 2, 1000000));
         }
-        Check.refuses("a 41st", Check.STATE, x, () -> x.card(0, 1));
-        Check.refuses("a 41st, out of range", Check.RANGE, x, () -> x.card(0, 0));
-        Check.refuses("a 41st of nobody", Check.NUMBER, x, () -> x.card(2, 1));
+        Check.refuses("a 41st", Check.STATE, () -> x.card(0, 1));
+        Check.refuses("a 41st, out of range", Check.RANGE, () -> x.card(0, 0));
+        Check.refuses("a 41st of nobody", Check.NUMBER, () -> x.card(2, 1));
         Check.due("open", false, x.isTold(39));
         Check.due("nothing in the accounts", 0, x.account(CARD));
         Check.due("nothing to pay", 0, x.payCard());
@@ -167,13 +167,13 @@ final class TripsTest {
         x.budget(2, 0, 70);
         x.card(1, 100);
         x.card(0, 50);
-        Check.refuses("entry 2", Check.NUMBER, x, () -> x.tell(2, 2, 0));
-        Check.refuses("entry -1", Check.NUMBER, x, () -> x.tell(-1, 2, 0));
-        Check.refuses("centre 6", Check.NUMBER, x, () -> x.tell(0, 6, -1));
-        Check.refuses("centre -1", Check.NUMBER, x, () -> x.tell(0, -1, 0));
-        Check.refuses("own -1", Check.RANGE, x, () -> x.tell(0, 2, -1));
-        Check.refuses("own 101", Check.RANGE, x, () -> x.tell(0, 2, 101));
-        Check.refuses("not free", Check.STATE, x, () -> x.tell(0, 2, 29));
+        Check.refuses("entry 2", Check.NUMBER, () -> x.tell(2, 2, 0));
+        Check.refuses("entry -1", Check.NUMBER, () -> x.tell(-1, 2, 0));
+        Check.refuses("centre 6", Check.NUMBER, () -> x.tell(0, 6, -1));
+        Check.refuses("centre -1", Check.NUMBER, () -> x.tell(0, -1, 0));
+        Check.refuses("own -1", Check.RANGE, () -> x.tell(0, 2, -1));
+        Check.refuses("own 101", Check.RANGE, () -> x.tell(0, 2, 101));
+        Check.refuses("not free", Check.STATE, () -> x.tell(0, 2, 29));
         Check.due("open", false, x.isTold(0));
         Check.due("what is spent", 70, x.tell(0, 2, 30));
         Check.due("told", true, x.isTold(0));
@@ -182,8 +182,8 @@ final class TripsTest {
         Check.due("COST", 70, x.account(COST));
         Check.due("STAFF", 30, x.account(STAFF));
         Check.due("CARD", -100, x.account(CARD));
-        Check.refuses("it was told", Check.STATE, x, () -> x.tell(0, 2, 100));
-        Check.refuses("it was told, out of range", Check.RANGE, x, () -> x.tell(0, 2, 101));
+        Check.refuses("it was told", Check.STATE, () -> x.tell(0, 2, 100));
+        Check.refuses("it was told, out of range", Check.RANGE, () -> x.tell(0, 2, 101));
         x.pass(360);
         Check.due("all of it private", 0, x.tell(1, 2, 50));
         Check.due("the other person owes", -50, x.staff(0, 0));
@@ -191,8 +191,8 @@ final class TripsTest {
         x.soft(2, true);
         Check.due("the year of now", 9, x.tell(2, 2, 0));
         Check.due("spent there", 9, x.centre(2, 1, 2));
-        Check.refuses("isTold(3)", Check.NUMBER, x, () -> x.isTold(3));
-        Check.refuses("isTold(-1)", Check.NUMBER, x, () -> x.isTold(-1));
+        Check.refuses("isTold(3)", Check.NUMBER, () -> x.isTold(3));
+        Check.refuses("isTold(-1)", Check.NUMBER, () -> x.isTold(-1));
     }
 
     private static void promise34() {
@@ -224,8 +224,8 @@ final class TripsTest {
             x.invoice(r, 0, 1, 1);
         }
         Check.due("none at first", 0, sampled(x, 0, 60) + sampled(x, 1, 30) + sampled(x, 2, 40));
-        Check.refuses("percents -1", Check.RANGE, x, () -> x.sample(1, -1));
-        Check.refuses("percents 101", Check.RANGE, x, () -> x.sample(1, 101));
+        Check.refuses("percents -1", Check.RANGE, () -> x.sample(1, -1));
+        Check.refuses("percents 101", Check.RANGE, () -> x.sample(1, 101));
         x.sample(12345, 100);
         Check.due("all", 130, sampled(x, 0, 60) + sampled(x, 1, 30) + sampled(x, 2, 40));
         x.sample(Integer.MAX_VALUE, 40);
@@ -244,12 +244,12 @@ final class TripsTest {
         Check.due("with the carry", false, x.isSampled(0, 1));
         x.sample(12345, 0);
         Check.due("none again", 0, sampled(x, 0, 60) + sampled(x, 1, 30) + sampled(x, 2, 40));
-        Check.refuses("kind 3", Check.RANGE, x, () -> x.isSampled(3, 99));
-        Check.refuses("kind -1", Check.RANGE, x, () -> x.isSampled(-1, -1));
-        Check.refuses("invoice 60", Check.NUMBER, x, () -> x.isSampled(0, 60));
-        Check.refuses("trip 30", Check.NUMBER, x, () -> x.isSampled(1, 30));
-        Check.refuses("entry 40", Check.NUMBER, x, () -> x.isSampled(2, 40));
-        Check.refuses("entry -1", Check.NUMBER, x, () -> x.isSampled(2, -1));
+        Check.refuses("kind 3", Check.RANGE, () -> x.isSampled(3, 99));
+        Check.refuses("kind -1", Check.RANGE, () -> x.isSampled(-1, -1));
+        Check.refuses("invoice 60", Check.NUMBER, () -> x.isSampled(0, 60));
+        Check.refuses("trip 30", Check.NUMBER, () -> x.isSampled(1, 30));
+        Check.refuses("entry 40", Check.NUMBER, () -> x.isSampled(2, 40));
+        Check.refuses("entry -1", Check.NUMBER, () -> x.isSampled(2, -1));
     }
 
     private static int sampled(ChitWright x, int kind, int count) {
