@@ -69,6 +69,8 @@ final class EdgesOfOrdersTest {
         Check.refuses("as its quantity of now", Check.STATE, () -> x.receive(0, 0, 1));
         x.change(0, 0, 80);
         Check.due("one of 80", 0, x.receive(0, 0, 1));
+        x.change(0, 0, 99);
+        Check.due("all 99 at last", 0, x.receive(0, 0, 19));
     }
 
     /** "as many as were received and are not on invoices that are booked (paid ones with them, here and below)" */
@@ -258,6 +260,25 @@ final class EdgesOfOrdersTest {
         Check.due("without a tax", 0, x.invoiceOf(1, 3));
         x.invoice(0, 0, 11, 9);
         Check.due("99 by 100, of all pieces together", 9, x.invoiceOf(2, 2));
+        heldByTheRateOfThen();
+    }
+
+    private static void heldByTheRateOfThen() {
+        ChitWright x = goods(9);
+        x.supplier(0, 0, 1, 0, 0, 0);
+        x.rate(1, 1050);
+        x.invoice(0, 0, 1, 100);
+        x.supplier(0, 0, 2, 0, 0, 0);
+        x.rate(1, 3000);
+        x.rate(2, 2000);
+        Check.due("held for pieces alone", 1, x.invoiceOf(0, 1));
+        Check.due("booked by the net of then", 1, x.receive(0, 0, 1));
+        Check.due("its net", 105, x.invoiceOf(0, 2));
+        Check.due("its tax", 21, x.invoiceOf(0, 3));
+        Check.due("owed", 126, x.invoiceOf(0, 5));
+        x.run(0, false);
+        Check.due("paid in the money of now", -240, x.account(BANK));
+        Check.due("the difference", 114, x.account(RATES));
     }
 
     /** "invoices of a line are looked at again, by rising numbers, when something of it is received" */
@@ -464,6 +485,13 @@ final class EdgesOfOrdersTest {
         gone.invoice(0, 0, 1, 1000);
         gone.supplier(0, 0, 0, 50, 0, 30);
         Check.due("it is told no more", 0, gone.run(0, true));
+        ChitWright days = services(9, 1000);
+        days.supplier(0, 0, 0, 50, 2, 5);
+        days.invoice(0, 0, 1, 1000);
+        days.pass(6);
+        Check.due("its days are over", 0, days.run(0, true));
+        days.supplier(0, 0, 0, 50, 2, 6);
+        Check.due("the days that are told now", 1, days.run(0, true));
     }
 
     /** "counted from when they were booked, are not over (the last one counted)" */

@@ -4,6 +4,7 @@ final class LimitsTest {
 
     public static void main(String[] args) {
         newObject();
+        twoObjects();
         nothingToName();
         nothingToNameBeforeRanges();
         noLine();
@@ -47,6 +48,20 @@ final class LimitsTest {
         Check.due("the first person is 0", 0, x.person(NONE, 0));
         Check.due("and the controller", 0, x.controller(0));
         suppliersAtFirst();
+    }
+
+    /** Nothing that is done in one office is seen in another one. */
+    private static void twoObjects() {
+        String first = Picture.of(ChitWright::new);
+        ChitWright busy = Offices.busy();
+        Check.due("a new one beside a busy one", first, Picture.of(ChitWright::new));
+        Check.due("the busy one goes on", 10, busy.day());
+        ChitWright one = new ChitWright();
+        ChitWright other = new ChitWright();
+        one.pass(7);
+        one.person(NONE, 5);
+        Check.due("the other day", 0, other.day());
+        Check.refuses("no person in the other one", Check.NUMBER, () -> other.staff(0, 0));
     }
 
     /** "terms in days, and a discount in percent [..] all 0 at first", "a country, 0, which is home [..] a money, 0, the home one" */

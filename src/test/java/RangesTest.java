@@ -72,6 +72,8 @@ final class RangesTest {
             new Row("person", (x, a) -> x.person(a[0], a[1]), Argument.number(NONE, NONE, LAST), Argument.value(7, 0, 10000000)),
             new Row("absent", (x, a) -> x.absent(a[0], a[1], a[2]), onePerson(0), Argument.value(20, 0, 1079), onePerson(LAST)),
             new Row("absent", (x, a) -> x.absent(a[0], a[1], a[2]), onePerson(LAST), Argument.value(20, 0, 1079), onePerson(0)),
+            new Row("absent", (x, a) -> x.absent(a[0], a[1], a[2]),
+                onePerson(Offices.MIDDLE), Argument.value(20, 0, 1079), onePerson(Offices.LOW)),
             new Row("controller", (x, a) -> x.controller(a[0]), person()),
             new Row("budget", (x, a) -> x.budget(a[0], a[1], a[2]),
                 centre(), Argument.number(0, 0, 2), Argument.value(9, 0, 100000000)),
@@ -79,6 +81,14 @@ final class RangesTest {
             new Row("carried", (x, a) -> x.carried(a[0]), Argument.value(9, 0, 100)),
             new Row("taxes", (x, a) -> x.taxes(a[0], a[1]), Argument.value(9, 0, 30), Argument.value(9, 0, 100)),
             new Row("pass", (x, a) -> x.pass(a[0]), Argument.value(1, 1, 360)));
+        for (int i = 0; i < PERSONS; i++) {
+            int same = i;
+            BUSY.range("absent, both the same", x -> x.absent(same, 20, same));
+        }
+        for (int i = 0; i < 6; i++) {
+            int same = i;
+            RICH.range("transfer, both the same", x -> x.transfer(same, same, 0, 9));
+        }
         of(RICH,
             new Row("transfer", (x, a) -> x.transfer(a[0], a[1], a[2], a[3]),
                 Argument.number(3, 0, 5), Argument.number(4, 0, 5), Argument.number(1, 0, 2), Argument.value(9, 1, 100000000)));
@@ -87,7 +97,7 @@ final class RangesTest {
     private static void suppliers() {
         of(BUSY,
             new Row("supplier", (x, a) -> x.supplier(a[0], a[1], a[2], a[3], a[4], a[5]),
-                Argument.number(1, 0, 5), Argument.number(1, 0, 2), Argument.number(1, 0, 2),
+                Argument.number(1, 0, 5), Argument.number(2, 0, 2), Argument.number(2, 0, 2),
                 Argument.value(1, 0, 90), Argument.value(1, 0, 10), Argument.value(1, 0, 30)),
             new Row("rate", (x, a) -> x.rate(a[0], a[1]), Argument.number(1, 1, 2), Argument.value(1000, 100, 10000)));
     }
@@ -149,7 +159,7 @@ final class RangesTest {
             new Row("card", (x, a) -> x.card(a[0], a[1]), person(), Argument.value(9, 1, 1000000)),
             new Row("tell", (x, a) -> x.tell(a[0], a[1], a[2]), Argument.thing(1, Offices.ENTRIES), centre(), Argument.value(600, 0, 1000)),
             new Row("sample", (x, a) -> x.sample(a[0], a[1]),
-                Argument.free(5, Integer.MIN_VALUE, Integer.MAX_VALUE), Argument.value(9, 0, 100)));
+                Argument.free(123456789, Integer.MIN_VALUE, Integer.MAX_VALUE), Argument.value(9, 0, 100)));
     }
 
     private static void questions() {

@@ -235,6 +235,14 @@ final class RefusedTest {
         for (int r : new int[] {DRAFT, SENT, REFUSED, ORDERED, ENDED, Offices.EMPTY}) {
             refused(BUSY, new Row("order", (x, a) -> x.order(a[0], a[1]), request(r), Argument.number(5, 0, 5)));
         }
+        Refusals changed = new Refusals(RefusedTest::changed);
+        changed.state("105 percent are still of what it was when it was ordered", x -> x.order(0, 5));
+    }
+
+    private static ChitWright changed() {
+        ChitWright x = changeable(false);
+        x.change(0, 0, 21);
+        return x;
     }
 
     /** "if it is not ORDERED, the line is of services, or there would be too many or too few" */

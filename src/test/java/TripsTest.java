@@ -211,7 +211,7 @@ final class TripsTest {
         Check.due("BANK then", -700, x.account(BANK));
     }
 
-    private static void promise35() {
+    private static ChitWright withMuchToSample() {
         ChitWright x = Offices.soft();
         for (int i = 0; i < 40; i++) {
             x.card(0, 1);
@@ -223,33 +223,32 @@ final class TripsTest {
         for (int i = 0; i < 60; i++) {
             x.invoice(r, 0, 1, 1);
         }
+        return x;
+    }
+
+    private static void promise35() {
+        ChitWright x = withMuchToSample();
         Check.due("none at first", 0, sampled(x, 0, 60) + sampled(x, 1, 30) + sampled(x, 2, 40));
         Check.refuses("percents -1", Check.RANGE, () -> x.sample(1, -1));
         Check.refuses("percents 101", Check.RANGE, () -> x.sample(1, 101));
         x.sample(12345, 100);
         Check.due("all", 130, sampled(x, 0, 60) + sampled(x, 1, 30) + sampled(x, 2, 40));
-        x.sample(Integer.MAX_VALUE, 40);
-        asWritten(x, Integer.MAX_VALUE, 40);
-        x.sample(Integer.MIN_VALUE, 1);
-        asWritten(x, Integer.MIN_VALUE, 1);
-        x.sample(-7, 99);
-        asWritten(x, -7, 99);
-        x.sample(1234567890, 50);
-        asWritten(x, 1234567890, 50);
-        x.sample(-987654321, 50);
-        asWritten(x, -987654321, 50);
         x.sample(45458, 39);
         Check.due("the last seed ahead of a carry", true, x.isSampled(0, 1));
         x.sample(45459, 39);
         Check.due("with the carry", false, x.isSampled(0, 1));
-        x.sample(12345, 0);
-        Check.due("none again", 0, sampled(x, 0, 60) + sampled(x, 1, 30) + sampled(x, 2, 40));
         Check.refuses("kind 3", Check.RANGE, () -> x.isSampled(3, 99));
         Check.refuses("kind -1", Check.RANGE, () -> x.isSampled(-1, -1));
         Check.refuses("invoice 60", Check.NUMBER, () -> x.isSampled(0, 60));
         Check.refuses("trip 30", Check.NUMBER, () -> x.isSampled(1, 30));
         Check.refuses("entry 40", Check.NUMBER, () -> x.isSampled(2, 40));
         Check.refuses("entry -1", Check.NUMBER, () -> x.isSampled(2, -1));
+        asWritten(Integer.MAX_VALUE, 40);
+        asWritten(Integer.MIN_VALUE, 1);
+        asWritten(-7, 99);
+        asWritten(1234567890, 50);
+        asWritten(-987654321, 50);
+        asWritten(12345, 0);
     }
 
     private static int sampled(ChitWright x, int kind, int count) {
@@ -260,7 +259,9 @@ final class TripsTest {
         return sampled;
     }
 
-    private static void asWritten(ChitWright x, int seed, int percents) {
+    private static void asWritten(int seed, int percents) {
+        ChitWright x = withMuchToSample();
+        x.sample(seed, percents);
         int[] counts = {60, 30, 40};
         for (int kind = 0; kind < 3; kind++) {
             for (int n = 0; n < counts[kind]; n++) {
